@@ -310,11 +310,7 @@ public final class TrapSurvey {
     }
 
     public int undo() {
-        if (history.size == 0) {
-            return BAD_STATE;
-        }
-        history.takeBack(plant);
-        return history.size;
+        return history.takeBack(plant) ? history.size : BAD_STATE;
     }
 
     // ---- text
@@ -380,20 +376,17 @@ public final class TrapSurvey {
         private int size;
         private int x;
         private int y;
-        private int state;
-        private int readDay;
-        private long lostSteam;
+        private int state = UNKNOWN;
+        private int readDay = NONE;
+        private long lostSteam = 0;
 
+        /** Only a row that no trap has used: an undo makes the rows of later traps new again. */
         void install(int newLine, int newKind, int newSize, int newX, int newY) {
             line = newLine;
             kind = newKind;
             size = newSize;
             x = newX;
             y = newY;
-            // A row may have been used before an undo, so that what is not told is set too.
-            state = UNKNOWN;
-            readDay = NONE;
-            lostSteam = 0;
         }
 
         void copyFrom(Trap other) {
@@ -633,11 +626,14 @@ public final class TrapSurvey {
             size = HISTORY_STATES - 1;
         }
 
-        void takeBack(Plant now) {
-            if (size > 0) {
-                size--;
-                now.copyFrom(states[size]);
+        /** Tells whether there was a state to take back. */
+        boolean takeBack(Plant now) {
+            if (size <= 0) {
+                return false;
             }
+            size--;
+            now.copyFrom(states[size]);
+            return true;
         }
     }
 

@@ -3,6 +3,7 @@ public final class LossTest {
     private static final Check CHECK = new Check("LossTest");
 
     public static void main(String[] args) {
+        sixteenTraps();
         promise15Loss();
         promise16LineLoss();
         promise17HeaderLoss();
@@ -30,6 +31,22 @@ public final class LossTest {
         x.setPressure(0, pressure);
         x.read(0, 300, 300, 60);
         return x;
+    }
+
+    /** Sums over as many traps as there can be: the sizes 1 to 9 and 1 to 7, blown, pressure 10. */
+    private static void sixteenTraps() {
+        TrapSurvey x = Build.fullOfTraps();
+        for (int trap = 0; trap < 16; trap++) {
+            x.read(trap, 300, 300, 60);
+        }
+        int sum = 110 * (285 + 140);
+        CHECK.due("lineLoss(0) of 16", sum, x.lineLoss(0));
+        CHECK.due("headerLoss(1) of 16", sum, x.headerLoss(1));
+        CHECK.due("pass(2) with 16", 2, x.pass(2));
+        CHECK.due("lost(15) of 16", 110 * 49 * 24 * 2, x.lost(15));
+        CHECK.due("lost(-1) of 16", sum * 24 * 2, x.lost(-1));
+        CHECK.due("loss(16) of 16", Check.BAD_INDEX, x.loss(16));
+        CHECK.due("inState(3) of 16", 16, x.inState(3));
     }
 
     private static void promise15Loss() {
@@ -137,6 +154,10 @@ public final class LossTest {
         TrapSurvey cheap = leaking(1, 1);
         cheap.setWork(1, 1, 90);
         CHECK.due("payback(0), the longest", 14000000, cheap.payback(0));
+        // A day less would be one millionth short: 17 * 4117647 is 1000000 * 70 - 1.
+        TrapSurvey nearly = leaking(1, 6);
+        nearly.setWork(1, 1, 90);
+        CHECK.due("payback(0), nearly a day less", 4117648, nearly.payback(0));
         // The loss is 1250, the cost 150: 1250 * 20 * 20 * 300 days is just 1000000 * 150.
         TrapSurvey exact = blown(0, 5, 4);
         exact.setWork(20, 20, 90);
