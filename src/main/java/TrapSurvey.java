@@ -718,11 +718,12 @@ public final class TrapSurvey {
 
         private int nearestWaiting(Plant plant, int x, int y) {
             int nearest = NONE;
-            int shortest = Integer.MAX_VALUE;
+            int shortest = 0;
             for (int trap = 0; trap < plant.trapCount; trap++) {
-                if (waits[trap] && plant.traps[trap].wayFrom(x, y) < shortest) {
+                int way = plant.traps[trap].wayFrom(x, y);
+                if (waits[trap] && (nearest == NONE || way < shortest)) {
                     nearest = trap;
-                    shortest = plant.traps[trap].wayFrom(x, y);
+                    shortest = way;
                 }
             }
             return nearest;

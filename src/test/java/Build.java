@@ -4,7 +4,22 @@ final class Build {
     static final int THERMOSTATIC = 1;
     static final int DISC = 2;
 
+    static final int SOUND = 1;
+    static final int LEAKING = 2;
+    static final int BLOWN = 3;
+    static final int PLUGGED = 4;
+    static final int COLD = 5;
+
+    /** Readings that give the states 1 to 5 to a trap of any kind under the pressure 10. */
+    private static final int[][] READINGS = {{160, 144, 1}, {160, 145, 20}, {160, 160, 60}, {160, 0, 0}, {0, 0, 0}};
+
     private Build() {
+    }
+
+    /** Reads a trap so that it gets a state, 1 to 5; returns what read() answers. */
+    static int bringInto(TrapSurvey survey, int trap, int state) {
+        int[] reading = READINGS[state - 1];
+        return survey.read(trap, reading[0], reading[1], reading[2]);
     }
 
     /** One line, on the header 1. */
@@ -55,10 +70,24 @@ final class Build {
         return survey;
     }
 
-    static TrapSurvey fullOfLines() {
+    /** Lines by turns on the headers 0, 1 and 2. */
+    static TrapSurvey lines(int number) {
         TrapSurvey survey = new TrapSurvey();
-        for (int line = 0; line < 8; line++) {
+        for (int line = 0; line < number; line++) {
             survey.addLine(line % 3);
+        }
+        return survey;
+    }
+
+    static TrapSurvey fullOfLines() {
+        return lines(8);
+    }
+
+    /** Traps by turns on the lines, of which there is at least one. */
+    static TrapSurvey traps(int number, int lines) {
+        TrapSurvey survey = lines(lines);
+        for (int trap = 0; trap < number; trap++) {
+            survey.addTrap(trap % lines, trap % 3, 1 + trap % 9, trap, trap);
         }
         return survey;
     }

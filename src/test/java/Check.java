@@ -12,6 +12,11 @@ final class Check {
     /** More than the history can hold, so that undoing so often empties it. */
     private static final int MANY_UNDOS = 7;
 
+    /** A call of a method with one of its arguments open. */
+    interface OpenCall {
+        long with(TrapSurvey survey, int value);
+    }
+
     private final String test;
     private int wrong = 0;
 
@@ -45,6 +50,18 @@ final class Check {
         }
         due("textFault() after " + call, spared.textFault(), called.textFault());
         due("clearText() after " + call, spared.clearText(), called.clearText());
+    }
+
+    /** Each of the values is refused by the call, which changes nothing. */
+    void refuses(Supplier<TrapSurvey> fresh, String call, long refusal, OpenCall calling, int... values) {
+        for (int value : values) {
+            answers(fresh, call + " with " + value, refusal, survey -> calling.with(survey, value));
+        }
+    }
+
+    /** The values next to a range, and the farthest ones. */
+    static int[] beyond(int least, int most) {
+        return new int[] {least - 1, most + 1, Integer.MIN_VALUE, Integer.MAX_VALUE};
     }
 
     /** The call answers, and one undo() brings back what was before it. */

@@ -1,11 +1,6 @@
 /** Promises 11 to 14: readings, states, days. */
 public final class ReadingTest {
     private static final Check CHECK = new Check("ReadingTest");
-    private static final int SOUND = 1;
-    private static final int LEAKING = 2;
-    private static final int BLOWN = 3;
-    private static final int PLUGGED = 4;
-    private static final int COLD = 5;
 
     public static void main(String[] args) {
         promise11Read();
@@ -23,21 +18,21 @@ public final class ReadingTest {
 
     private static void promise11Read() {
         TrapSurvey x = Build.oneTrap(Build.BUCKET, 1);
-        CHECK.due("read(0, 300, 300, 60)", BLOWN, x.read(0, 300, 300, 60));
-        CHECK.due("trap(0, 5)", BLOWN, x.trap(0, 5));
+        CHECK.due("read(0, 300, 300, 60)", Build.BLOWN, x.read(0, 300, 300, 60));
+        CHECK.due("trap(0, 5)", Build.BLOWN, x.trap(0, 5));
         CHECK.due("trap(0, 6)", 0, x.trap(0, 6));
         x.pass(17);
-        CHECK.due("read(0, 0, 0, 0)", COLD, x.read(0, 0, 0, 0));
-        CHECK.due("trap(0, 5)", COLD, x.trap(0, 5));
+        CHECK.due("read(0, 0, 0, 0)", Build.COLD, x.read(0, 0, 0, 0));
+        CHECK.due("trap(0, 5)", Build.COLD, x.trap(0, 5));
         CHECK.due("trap(0, 6)", 17, x.trap(0, 6));
         CHECK.due("lost(0)", 110 * 24 * 17, x.lost(0));
-        CHECK.due("read(0, 80, 41, 0)", SOUND, x.read(0, 80, 41, 0));
-        CHECK.due("trap(0, 5)", SOUND, x.trap(0, 5));
-        CHECK.records(Build::plant, "read(3, 200, 180, 20)", LEAKING, s -> s.read(3, 200, 180, 20));
-        CHECK.records(Build::plant, "read(0, 160, 100, 30)", BLOWN, s -> s.read(0, 160, 100, 30));
+        CHECK.due("read(0, 80, 41, 0)", Build.SOUND, x.read(0, 80, 41, 0));
+        CHECK.due("trap(0, 5)", Build.SOUND, x.trap(0, 5));
+        CHECK.records(Build::plant, "read(3, 200, 180, 20)", Build.LEAKING, s -> s.read(3, 200, 180, 20));
+        CHECK.records(Build::plant, "read(0, 160, 100, 30)", Build.BLOWN, s -> s.read(0, 160, 100, 30));
         TrapSurvey y = Build.plant();
         y.read(1, 0, 0, 0);
-        CHECK.due("trap(0, 5), another trap", BLOWN, y.trap(0, 5));
+        CHECK.due("trap(0, 5), another trap", Build.BLOWN, y.trap(0, 5));
         CHECK.due("trap(3, 6), another trap", Check.NONE, y.trap(3, 6));
     }
 
@@ -55,8 +50,8 @@ public final class ReadingTest {
     }
 
     private static void promise12Judge() {
-        CHECK.answers(Build::plant, "judge(3, 200, 180, 20)", LEAKING, s -> s.judge(3, 200, 180, 20));
-        CHECK.answers(Build::plant, "judge(0, 300, 300, 60)", BLOWN, s -> s.judge(0, 300, 300, 60));
+        CHECK.answers(Build::plant, "judge(3, 200, 180, 20)", Build.LEAKING, s -> s.judge(3, 200, 180, 20));
+        CHECK.answers(Build::plant, "judge(0, 300, 300, 60)", Build.BLOWN, s -> s.judge(0, 300, 300, 60));
         CHECK.answers(Build::plant, "judge(-1, ..)", Check.BAD_INDEX, s -> s.judge(-1, 1, 1, 1));
         CHECK.answers(Build::plant, "judge(5, ..)", Check.BAD_INDEX, s -> s.judge(5, 1, 1, 1));
         CHECK.answers(Build::plant, "judge(0, -1, 0, 0)", Check.BAD_VALUE, s -> s.judge(0, -1, 0, 0));
@@ -80,49 +75,49 @@ public final class ReadingTest {
             TrapSurvey x = Build.oneTrap(kind, 1);
             for (int pressure = 1; pressure <= 20; pressure++) {
                 x.setPressure(0, pressure);
-                judges(x, 50 + 3 * pressure - 1, 0, 0, COLD);
-                judges(x, 50 + 3 * pressure, 0, 0, PLUGGED);
+                judges(x, 50 + 3 * pressure - 1, 0, 0, Build.COLD);
+                judges(x, 50 + 3 * pressure, 0, 0, Build.PLUGGED);
             }
             x.setPressure(0, 10);
-            judges(x, 79, 300, 60, COLD);
-            judges(x, 160, 120, 0, PLUGGED);
-            judges(x, 160, 121, 0, SOUND);
-            judges(x, 160, 120, 1, SOUND);
+            judges(x, 79, 300, 60, Build.COLD);
+            judges(x, 160, 120, 0, Build.PLUGGED);
+            judges(x, 160, 121, 0, Build.SOUND);
+            judges(x, 160, 120, 1, Build.SOUND);
         }
     }
 
     private static void promise12Bucket() {
         TrapSurvey x = Build.oneTrap(Build.BUCKET, 1);
-        judges(x, 160, 160, 0, SOUND);
-        judges(x, 160, 160, 14, SOUND);
-        judges(x, 160, 160, 15, LEAKING);
-        judges(x, 160, 100, 29, LEAKING);
-        judges(x, 160, 100, 30, BLOWN);
-        judges(x, 80, 300, 60, BLOWN);
+        judges(x, 160, 160, 0, Build.SOUND);
+        judges(x, 160, 160, 14, Build.SOUND);
+        judges(x, 160, 160, 15, Build.LEAKING);
+        judges(x, 160, 100, 29, Build.LEAKING);
+        judges(x, 160, 100, 30, Build.BLOWN);
+        judges(x, 80, 300, 60, Build.BLOWN);
     }
 
     private static void promise12Thermostatic() {
         TrapSurvey x = Build.oneTrap(Build.THERMOSTATIC, 1);
-        judges(x, 160, 300, 0, BLOWN);
-        judges(x, 160, 155, 0, BLOWN);
-        judges(x, 160, 154, 60, LEAKING);
-        judges(x, 160, 145, 0, LEAKING);
-        judges(x, 160, 144, 60, SOUND);
-        judges(x, 160, 0, 60, SOUND);
+        judges(x, 160, 300, 0, Build.BLOWN);
+        judges(x, 160, 155, 0, Build.BLOWN);
+        judges(x, 160, 154, 60, Build.LEAKING);
+        judges(x, 160, 145, 0, Build.LEAKING);
+        judges(x, 160, 144, 60, Build.SOUND);
+        judges(x, 160, 0, 60, Build.SOUND);
     }
 
     private static void promise12Disc() {
         TrapSurvey x = Build.oneTrap(Build.DISC, 1);
-        judges(x, 160, 100, 60, BLOWN);
-        judges(x, 160, 100, 40, BLOWN);
-        judges(x, 160, 100, 39, LEAKING);
-        judges(x, 160, 100, 20, LEAKING);
-        judges(x, 160, 100, 19, SOUND);
-        judges(x, 160, 157, 19, SOUND);
-        judges(x, 160, 158, 19, BLOWN);
-        judges(x, 160, 158, 0, BLOWN);
-        judges(x, 160, 157, 20, LEAKING);
-        judges(x, 160, 158, 39, BLOWN);
+        judges(x, 160, 100, 60, Build.BLOWN);
+        judges(x, 160, 100, 40, Build.BLOWN);
+        judges(x, 160, 100, 39, Build.LEAKING);
+        judges(x, 160, 100, 20, Build.LEAKING);
+        judges(x, 160, 100, 19, Build.SOUND);
+        judges(x, 160, 157, 19, Build.SOUND);
+        judges(x, 160, 158, 19, Build.BLOWN);
+        judges(x, 160, 158, 0, Build.BLOWN);
+        judges(x, 160, 157, 20, Build.LEAKING);
+        judges(x, 160, 158, 39, Build.BLOWN);
     }
 
     private static void promise13Pass() {
