@@ -19,6 +19,7 @@ public final class FullTest {
         promise29AgainAndAgain();
         promise29EachMethodDropsTheOldest();
         promise29AllOfAFullPlantComesBack();
+        theLastOf512Calls();
         CHECK.end();
     }
 
@@ -230,5 +231,21 @@ public final class FullTest {
         CHECK.due("headerOf(7)", 1, x.headerOf(7));
         CHECK.due("trap(15, 5)", 3, x.trap(15, 5));
         CHECK.due("lost(15)", 110 * 49 * 24 * 2, x.lost(15));
+    }
+
+    /** "An object is used for at most 512 calls after it has been made": the last one is answered too. */
+    private static void theLastOf512Calls() {
+        TrapSurvey recorded = new TrapSurvey();
+        for (int call = 1; call <= 511; call++) {
+            recorded.setPressure(call % 3, 1 + call % 20);
+        }
+        CHECK.due("undo(), the last call", 4, recorded.undo());
+        TrapSurvey undone = new TrapSurvey();
+        for (int call = 1; call <= 255; call++) {
+            CHECK.due("addLine(0), call " + (2 * call - 1), 0, undone.addLine(0));
+            CHECK.due("undo(), call " + 2 * call, 0, undone.undo());
+        }
+        CHECK.due("addLine(2), the last but one", 0, undone.addLine(2));
+        CHECK.due("digest(), the last call", -5030414187519618102L, undone.digest());
     }
 }

@@ -91,6 +91,13 @@ public final class HistoryTest {
         isRecorded("repairAll(0)", 0, s -> s.repairAll(0));
         isRecorded("repairAll(230)", 2, s -> s.repairAll(230));
         isRecorded("readAll()", 2, TrapSurvey::readAll);
+        CHECK.records(HistoryTest::readAlready, "readAll() that changes nothing", 2, TrapSurvey::readAll);
+    }
+
+    private static TrapSurvey readAlready() {
+        TrapSurvey survey = Build.typed(Build.plant(), "3:200/190@20;4:90/90");
+        survey.readAll();
+        return survey;
     }
 
     private static void isNotRecorded(String call, ToLongFunction<TrapSurvey> calling) {
